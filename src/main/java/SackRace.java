@@ -136,10 +136,10 @@ public final class SackRace {
         Told old = told;
         told = spare;
         spare = old;
-        sack = told.load;
+        sack = told.load == NONE ? SACK_WITHOUT_LOAD : told.load;
         rain = false;
         racer.on = false;
-        racer.last = told.seed;
+        racer.last = told.seed == NONE ? 0 : told.seed;
         undoable = 0;
         imaged = false;
         splits.clear();
@@ -921,8 +921,6 @@ public final class SackRace {
         private int open = 0;
         private boolean valueDue = true;
         private boolean notMayStand = true;
-        private boolean loaded = false;
-        private boolean seeded = false;
 
         int fault = 0;
         int place = NONE;
@@ -936,8 +934,6 @@ public final class SackRace {
             into.clear();
             fault = 0;
             place = NONE;
-            loaded = false;
-            seeded = false;
             for (int i = 0; i <= MOST_BYTES; i++) {
                 tokens.next();
                 if (tokens.kind == Tokens.END) {
@@ -964,8 +960,12 @@ public final class SackRace {
                 case Tokens.WORD_HOLD: return readRow(into, HOLD);
                 case Tokens.WORD_PLAN: return readRow(into, PLAN);
                 case Tokens.WORD_JUDGE: return readRow(into, JUDGE);
-                case Tokens.WORD_LOAD: return readLoad(into);
-                case Tokens.WORD_SEED: return readSeed(into);
+                case Tokens.WORD_LOAD:
+                    into.load = readLone(into.load, MOST_SACK);
+                    return into.load != NONE;
+                case Tokens.WORD_SEED:
+                    into.seed = readLone(into.seed, MOST_SEED);
+                    return into.seed != NONE;
                 case Tokens.WORD_LAW: return readLaw(into.laws);
                 default: return refuse(MISPLACED);
             }
@@ -1037,32 +1037,19 @@ public final class SackRace {
             return tokens.kind != Tokens.NUMBER || refuse(TOO_MUCH);
         }
 
-        private boolean readLoad(Told into) {
-            if (loaded) {
-                return refuse(TOLD_ALREADY);
+        /** The one number of load or seed, which must not be told yet. */
+        private int readLone(int told, int most) {
+            if (told != NONE) {
+                refuse(TOLD_ALREADY);
+                return NONE;
             }
-            loaded = true;
             tokens.next();
-            if (!isNumber(0, MOST_SACK)) {
-                return false;
+            if (!isNumber(0, most)) {
+                return NONE;
             }
-            into.load = tokens.value;
+            int number = tokens.value;
             tokens.next();
-            return ends();
-        }
-
-        private boolean readSeed(Told into) {
-            if (seeded) {
-                return refuse(TOLD_ALREADY);
-            }
-            seeded = true;
-            tokens.next();
-            if (!isNumber(0, MOST_SEED)) {
-                return false;
-            }
-            into.seed = tokens.value;
-            tokens.next();
-            return ends();
+            return ends() ? number : NONE;
         }
 
         private boolean isNumber(int low, int high) {
@@ -1351,8 +1338,9 @@ public final class SackRace {
             new Rows(MOST_PLANS, FIRST_PACE + MOST_STRETCHES), new Rows(4, 2)
         };
         final Laws laws = new Laws();
-        int load = SACK_WITHOUT_LOAD;
-        int seed = 0;
+        /** NONE: not told. */
+        int load = NONE;
+        int seed = NONE;
         int lines = 0;
 
         void clear() {
@@ -1360,8 +1348,8 @@ public final class SackRace {
                 kinds[i].size = 0;
             }
             laws.clear();
-            load = SACK_WITHOUT_LOAD;
-            seed = 0;
+            load = NONE;
+            seed = NONE;
             lines = 0;
         }
 
