@@ -170,6 +170,9 @@ public final class BestTest {
         Check.due("man 1", x.alike(1, 0, 1), -1);
         Check.due("hold 1", x.alike(0, 1, 1), -1);
         Check.due("the sack stays", x.count(9), 30);
+        SackRace y = Check.told("lane a 1 0;man m 9 9 9;hold h 0 0 0;law time heavy + 3;");
+        Check.due("none but sack 0", y.alike(0, 0, 3), 0);
+        Check.due("not even sack 0", y.alike(0, 0, 2), -2);
     }
 
     /** All six STRETCHES, each of which wants another pace. */

@@ -26,6 +26,14 @@ public final class DrawTest {
         Check.due("the first of several", y.wins(1, 3, 0, 1), 0);
         Check.due("at most", y.beats(1, 0, 0, 18), 10);
         Check.due("at most", y.beats(1, 0, 0, 17), 0);
+        SackRace six = Check.told("lane a 20 0;lane b 20 0;lane c 20 0;lane d 20 0;lane e 20 0;lane f 20 0;man m 9 9 9;"
+            + "hold h 0 0 0;plan p h 4;");
+        Check.due("all 120 steps", six.beats(1, 0, 0, 720), 10);
+        Check.due("all 120 steps", six.beats(1, 0, 0, 719), 0);
+        Check.due("all 120 steps", six.run(0, 0, 3), 120);
+        six.race(0, 0);
+        Check.due("all 120 steps", six.go(120), 120);
+        Check.due("up", six.now(5), 1);
         SackRace z = Check.told("man m 9 9 9;hold h 0 0 4;plan p h 4;");
         Check.due("no stretches", z.wins(1, 1, 0, 0), 10);
         Check.due("no stretches", z.beats(1, 0, 0, 0), 10);

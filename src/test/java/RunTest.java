@@ -98,6 +98,17 @@ public final class RunTest {
         value("1 <> 1", 0);
         value("2 <= 2", 1);
         value("3 >= 4", 0);
+        value("4 >= 4", 1);
+        value("4 > 4", 0);
+        value("4 < 4", 0);
+        value("4 <= 3", 0);
+        value("3 <> 4", 1);
+        value("(0 or 1) + 1", 2);
+        value("2 * (0 or 1 and 1)", 2);
+        value("(not 1) - 5", -5);
+        value("3 - (1 and 0 or 0 = 0) * 2", 1);
+        value("((1 + 2) * (3 + 4) - (5 - 6)) * 2", 44);
+        value("1 < 2 or 1 / 1 - 1", 1);
         value("2 > 1", 1);
         value("2<1", 0);
         value("1=1 and 2=2", 1);

@@ -67,9 +67,15 @@ public final class SplitsTest {
         Check.due("stays", x.count(7), 1);
         Check.due("known(2)", x.known(2), true);
         Check.due("at odds", x.fits(0, 0), 0);
+        x.note(0, 0, 0, 10);
+        x.known(3);
+        Check.due("the last one alone doesn't count", x.fits(0, 0), 0);
+        x.strike(1);
+        x.known(4);
+        Check.due("told twice", x.fits(0, 0) > 0, true);
         x.known(-1);
         x.strike(0);
-        Check.due("also those to come", x.count(7), 3);
+        Check.due("also those to come", x.count(7), 5);
     }
 
     /** Counted once more by objects whose man is another one each. */
@@ -113,6 +119,21 @@ public final class SplitsTest {
         Check.due("seven legs at least", x.fits(0, 3), 7);
         Check.due("40 at most", x.fits(0, 4), 40);
         Check.due("all winds", x.fits(0, 0), 60 * 34);
+        SackRace y = Check.told("lane a 1 3;man m 6 10 9;hold h 0 0 0;plan p h 1;law time (wind > 9) * 20 + (legs > 5) + 1;");
+        Check.due("60 at first", y.fits(0, 2) * 100 + y.fits(0, 4), 6040);
+        y.note(0, 0, 0, 1);
+        Check.due("less then", y.fits(0, 2) * 100 + y.fits(0, 4), 905);
+        Check.due("from 1 on", y.fits(0, 1) * 100 + y.fits(0, 3), 101);
+        y.strike(0);
+        y.note(0, 0, 0, 22);
+        Check.due("the others", y.fits(0, 1) * 100 + y.fits(0, 3), 1006);
+        Check.due("the others", y.fits(0, 2) * 100 + y.fits(0, 4), 6040);
+        SackRace z = Check.told("lane a 1 3;man m 6 10 9;hold h 0 0 0;plan p h 1;law time (wind = 9 and legs = 5) + 1;");
+        Check.due("40 at first", z.fits(0, 4), 40);
+        z.note(0, 0, 0, 2);
+        Check.due("one alone", z.fits(0, 0), 1);
+        Check.due("one alone", z.fits(0, 1) * 100 + z.fits(0, 3), 905);
+        Check.due("one alone", z.fits(0, 2) * 100 + z.fits(0, 4), 905);
     }
 
     private static void asNow() {

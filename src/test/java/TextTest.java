@@ -4,6 +4,7 @@ public final class TextTest {
         newObject();
         feed();
         text();
+        cuts();
         textReplaces();
         faultsOfTokens();
         faultsOfRows();
@@ -64,6 +65,25 @@ public final class TextTest {
         Check.due("leading noughts", Check.tell(x, "load 00000000000000000007;"), 1);
         Check.due("load", x.count(9), 7);
         Check.due("no blanks needed", Check.tell(x, "man m1 1 1;law time(pace<>1)and not 2;"), 2);
+    }
+
+    /** Bytes of the TAPE behind the first n don't belong to the last word, number or sign. */
+    private static void cut(String text, int n, int place) {
+        SackRace x = new SackRace();
+        Check.feed(x, text);
+        Check.due(text + " cut at " + n, x.text(n), -1);
+        Check.due(text + " cut at " + n, x.fault(0), 1);
+        Check.due(text + " cut at " + n, x.fault(1), place);
+    }
+
+    private static void cuts() {
+        cut("load 55;", 6, 6);
+        cut("loadx 5;", 4, 4);
+        cut("law time 1 <= 2;", 12, 12);
+        cut("law time 1 <> 2;", 12, 12);
+        cut("law time 1 >= 2;", 12, 12);
+        cut("load 5;", 6, 6);
+        cut("load 5;", 2, 0);
     }
 
     private static void textReplaces() {
@@ -184,6 +204,9 @@ public final class TextTest {
         Check.faulty("law time 1 (2);", 1, 11);
         Check.faulty("law time 1 and or 2;", 1, 15);
         Check.faulty("law time load;", 1, 9);
+        Check.faulty("law time lane;", 1, 9);
+        Check.faulty("law time wide;", 1, 9);
+        Check.faulty("law time not;", 1, 12);
         Check.faulty("law cost 1;law time 1;law cost", 3, 26);
         Check.faulty("law time ((((((((1))))))))+(((((((((", 2, 35);
         String ones = "1+1+1+1+1+1+1+1+1+1+1+1+1+1+1+1";
@@ -192,6 +215,8 @@ public final class TextTest {
         Check.due("62 knots", x.count(4), 62);
         Check.due("64 knots", Check.tell(x, "law time " + ones + ";law cost " + ones + ";law gain not (((pace)));"), 3);
         Check.due("64 knots", x.count(4), 64);
+        Check.tell(x, "lane a 1 1;man m 1 1 1;law cost " + ones + ";law time " + ones + " + 5 <> 21;");
+        Check.due("the last of 64 knots counts", x.law(0, 0, 0, 1), 0);
         Check.faulty("law time " + ones + ";law cost " + ones + ";law gain not not 1;", 2, 99);
         Check.faulty("law time " + ones + ";law cost " + ones + ";law gain 1 + 10000;", 2, 95);
         Check.faulty("law time " + ones + ";law cost " + ones + ";law gain 1 + load;", 1, 95);

@@ -17,6 +17,11 @@ public final class TrainTest {
         Check.due("harm 0", x.trained(0, 6, 0, 0), 0);
         Check.due("harm 0", x.trained(0, 6, 0, 2), 0);
         Check.due("other harm", x.trained(0, 2, 1, 2), 4);
+        Check.due("one week", x.trained(0, 1, 9, 0), 3);
+        Check.due("three weeks", x.trained(0, 3, 9, 0), 4);
+        SackRace y = Check.told("man m 5 5 9;man n 5 5 2;law gain weight;");
+        Check.due("one man", y.trained(0, 1, 0, 0), 9);
+        Check.due("another man", y.trained(1, 1, 0, 0), 2);
         Check.tell(x, "man m 5 5 9;law gain heavy;");
         Check.due("another text", x.trained(0, 2, 9, 0), 6);
     }
