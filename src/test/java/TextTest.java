@@ -215,7 +215,7 @@ public final class TextTest {
         Check.due("62 knots", x.count(4), 62);
         Check.due("64 knots", Check.tell(x, "law time " + ones + ";law cost " + ones + ";law gain not (((pace)));"), 3);
         Check.due("64 knots", x.count(4), 64);
-        Check.tell(x, "lane a 1 1;man m 1 1 1;law cost " + ones + ";law time " + ones + " + 5 <> 21;");
+        Check.tell(x, "lane a 1 1;man m 1 1 1;law cost " + ones + ";law time " + ones + " <> 16;");
         Check.due("the last of 64 knots counts", x.law(0, 0, 0, 1), 0);
         Check.faulty("law time " + ones + ";law cost " + ones + ";law gain not not 1;", 2, 99);
         Check.faulty("law time " + ones + ";law cost " + ones + ";law gain 1 + 10000;", 2, 95);
