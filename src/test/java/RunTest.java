@@ -124,6 +124,8 @@ public final class RunTest {
         value("1000 * 1000 * 1000 * 1001", error);
         value("(1000 * 1000 * 1000 * 1000) * (1000 * 1000 * 1000 * 1000)", error);
         value("(1000 * 1000 * 1000 * 1000) * (1000 * 1000 * 1000 * 1000) > 0", error);
+        value("4096 * 4096 * 4096 * (4096 * 4096 * 4096)", error);
+        value("4096 * 4096 * 4096 * (0 - 4096 * 4096 * 4096)", error);
         value("(0 - 4096) * 4096 * 4096 * 4096 * 4096 * 0", error);
     }
 
@@ -186,6 +188,15 @@ public final class RunTest {
         SackRace x = Check.told("lane a 3 0;man m 30 30 5;hold h 9 0 0;plan p h 5;law cost (wind = 30) * 20 - (wind = 1) * 30;");
         Check.due("20 and 9 less", x.led(0, 0, 1, 1), 1);
         Check.due("20 more and 9 less", x.led(0, 0, 2, 1), 12);
+        SackRace z = Check.told("lane a 1 0;lane b 1 0;man m 60 40 5;man n 1 1 5;man o 1 40 5;man p 60 1 5;hold h 0 0 0;"
+            + "plan p h 1;plan q h 2;plan r h 9;law time wind + legs / 2 - pace;law cost 0;");
+        int[] winds = {60, 1, 1, 60};
+        int[] legs = {40, 1, 40, 1};
+        int[] paces = {1, 2, 9};
+        for (int i = 0; i < 12; i++) {
+            int time = Math.max(1, winds[i % 4] + legs[i % 4] / 2 - paces[i / 4]);
+            Check.due("man " + i % 4 + " by plan " + i / 4, z.run(i % 4, i / 4, 0), 2 * time);
+        }
         SackRace y = Check.told("lane a 3 0;man m 5 30 5;hold h 0 0 0;plan p h 9;law cost pace;law time pace * 10 + wind;");
         Check.due("as it is ahead", y.led(0, 0, 1, 0), 95);
         Check.due("faded pace in laws", y.led(0, 0, 2, 0), 105);

@@ -167,6 +167,7 @@ public final class TextTest {
         Check.faulty("hold h 0 0 0;plan p 1;", 1, 20);
         Check.faulty("plan p h 1;hold h 0 0 0;", 4, 7);
         Check.faulty("hold h 0 0 0;plan p h 1 1 1 1 1 1 77;", 2, 34);
+        Check.faulty("hold h 0 0 0;plan p h 1 1 1 1 1 1 1;", 2, 34);
         Check.faulty("hold h 0 0 0;plan p h 1 x;", 1, 24);
         Check.faulty("load 1;seed 1;seed 1;", 3, 14);
         Check.faulty("seed 1;load 31;", 2, 12);
