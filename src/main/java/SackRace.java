@@ -526,7 +526,11 @@ public final class SackRace {
             return NONE;
         }
         layTurn(men, stretch);
-        return turn.restsUpTo(1 << MOST_MEN);
+        int found = 0;
+        for (int inside = 0; inside < 1 << MOST_MEN; inside++) {
+            found += turn.isRest(inside) ? 1 : 0;
+        }
+        return found;
     }
 
     public int rest(int men, int stretch, int k) {
@@ -534,10 +538,13 @@ public final class SackRace {
             return NONE;
         }
         layTurn(men, stretch);
+        int ahead = 0;
         for (int inside = 0; inside < 1 << MOST_MEN; inside++) {
-            if (turn.isRest(inside) && turn.restsUpTo(inside) == k) {
+            boolean is = turn.isRest(inside);
+            if (is && ahead == k) {
                 return inside;
             }
+            ahead += is ? 1 : 0;
         }
         return LACKS;
     }
@@ -626,9 +633,12 @@ public final class SackRace {
 
     public int rule() {
         int best = 0;
+        int least = missed(0) + wronged(0);
         for (int k = 1; k <= 5; k++) {
-            if (missed(k) + wronged(k) < missed(best) + wronged(best)) {
+            int sum = missed(k) + wronged(k);
+            if (sum < least) {
                 best = k;
+                least = sum;
             }
         }
         return best;
@@ -1948,15 +1958,6 @@ public final class SackRace {
             return true;
         }
 
-        /** How many RESTS there are whose bits are below these. */
-        int restsUpTo(int bits) {
-            int rests = 0;
-            for (int inside = 0; inside < bits; inside++) {
-                rests += isRest(inside) ? 1 : 0;
-            }
-            return rests;
-        }
-
         int sum(int inside) {
             int sum = 0;
             for (int i = 0; i < MOST_MEN; i++) {
@@ -1967,9 +1968,11 @@ public final class SackRace {
 
         int least() {
             int best = 0;
+            int leastSum = sum(0);
             for (int inside = 1; inside < 1 << MOST_MEN; inside++) {
-                if (isOf(inside) && sum(inside) < sum(best)) {
+                if (isOf(inside) && sum(inside) < leastSum) {
                     best = inside;
+                    leastSum = sum(inside);
                 }
             }
             return best;
