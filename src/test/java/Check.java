@@ -2,15 +2,21 @@
 final class Check {
     private static int wrong = 0;
     private static int asked = 0;
+    private static String sentence = "";
 
     private Check() {
+    }
+
+    /** The sentence of the document that the answers asked for from now on belong to. */
+    static void sentence(String words) {
+        sentence = words + ": ";
     }
 
     static void due(String call, long got, long want) {
         asked++;
         if (got != want) {
             wrong++;
-            System.out.println(call + " answered " + got + ", due is " + want);
+            System.out.println(sentence + call + " answered " + got + ", due is " + want);
         }
     }
 
@@ -43,7 +49,7 @@ final class Check {
         SackRace x = new SackRace();
         if (tell(x, text) < 0) {
             wrong++;
-            System.out.println("fault " + x.fault(0) + " at " + x.fault(1) + " in " + text);
+            System.out.println(sentence + "fault " + x.fault(0) + " at " + x.fault(1) + " in " + text);
         }
         return x;
     }
@@ -54,6 +60,14 @@ final class Check {
         due("text of " + text, tell(x, text), -1);
         due("fault(0) of " + text, x.fault(0), fault);
         due("fault(1) of " + text, x.fault(1), place);
+    }
+
+    /** A text that must have no fault and so many LINES. */
+    static void faultless(String text, int lines) {
+        SackRace x = new SackRace();
+        due("text of " + text, tell(x, text), lines);
+        due("fault(0) of " + text, x.fault(0), 0);
+        due("fault(1) of " + text, x.fault(1), -1);
     }
 
     /** Letters of a name as named() takes them. */
