@@ -228,6 +228,15 @@ public final class BestBoundsTest {
             }
             Check.due("0 at BEST's own", x.quick(man, 1, x.paces(man, 1, 0)), 0);
         }
+        Check.sentence("QUICK: with the SACK and rain as now, ahead of all other calls");
+        SackRace z = Check.told("lane a 1 0;man m 60 9 9;hold h 0 0 0;law time 80 - pace * (heavy / 10 + damp * 4);law cost 0;");
+        for (int sack = 0; sack <= 30; sack += 10) {
+            for (int rain = 0; rain <= 1; rain++) {
+                z.sack(sack);
+                z.rain(rain == 1);
+                Check.due("SACK " + sack + ", rain " + rain, z.quick(0, 0, 4), 5 * (sack / 10 + rain * 4));
+            }
+        }
         Check.sentence("quick: NONE: no such ones, no STRETCHES");
         for (int none : new int[] {0, 10, -1, Integer.MAX_VALUE, Integer.MIN_VALUE}) {
             Check.due("pace " + none, x.quick(0, 0, none), -1);

@@ -34,6 +34,16 @@ public final class CornerBoundsTest {
             Check.due("five REST by twos", x.rests(31, 0), 10);
             Check.due("four outside", x.corner(31, 0, 0), 24);
         }
+        for (String jam : new String[] {"", "law jam 5;", "law jam 1 / 0;"}) {
+            Check.due("jam 5 is as much as 5", Check.told("lane a 1 1 bend;" + MEN + jam + "law wide 5;").rests(3, 0), 3);
+            Check.due("jam 5 is more than 4", Check.told("lane a 1 1 bend;" + MEN + jam + "law wide 4;").rests(3, 0), 2);
+            Check.due("jam 5 twice", Check.told("lane a 1 1 bend;" + MEN + jam + "law wide 11;").corner(3, 0, 0), 10);
+        }
+        for (String wide : new String[] {"", "law wide 6;", "law wide 1 / 0;"}) {
+            Check.due("wide 6 is as much as 6", Check.told("lane a 1 1 bend;" + MEN + wide + "law jam 6;").rests(3, 0), 3);
+            Check.due("wide 6 is less than 7", Check.told("lane a 1 1 bend;" + MEN + wide + "law jam 7;").rests(3, 0), 2);
+            Check.due("wide 6 once", Check.told("lane a 1 1 bend;" + MEN + wide + "law jam 99;").corner(3, 0, 0), 6);
+        }
         Check.sentence("CORNER: for each other one inside: none, if alone");
         SackRace y = Check.told("lane a 1 1 bend;" + MEN + "law jam 999;law wide 999;");
         Check.due("alone", y.corner(1, 0, 0), 0);

@@ -236,29 +236,17 @@ public final class DrawBoundsTest {
 
     private static void winsDrawn() {
         Check.sentence("WINS: in one draw after another races of all of them by numbers (from a seed on, going on)");
-        SackRace x = Check.told(LANE);
         for (int seed : new int[] {0, 1, 2, 99999, 100000, 2147483646, 2147483647}) {
             for (int plan = 0; plan < 2; plan++) {
+                SackRace x = Check.told(LANE);
+                int[] tenths = new int[4];
+                int[] steps = new int[4];
+                for (int man = 0; man < 4; man++) {
+                    tenths[man] = x.run(man, plan, 0);
+                    steps[man] = x.run(man, plan, 3);
+                }
                 for (int men = 1; men < 16; men++) {
-                    last = seed;
-                    int[] wins = new int[4];
-                    for (int draw = 0; draw < 10; draw++) {
-                        int winner = -1;
-                        int least = 0;
-                        for (int man = 0; man < 4; man++) {
-                            if ((men >> man & 1) == 1) {
-                                int tenths = x.run(man, plan, 0);
-                                int slips = slipped(x.run(man, plan, 3), 2);
-                                if (tenths >= 0 && (winner < 0 || tenths + 4 * slips < least)) {
-                                    winner = man;
-                                    least = tenths + 4 * slips;
-                                }
-                            }
-                        }
-                        if (winner >= 0) {
-                            wins[winner]++;
-                        }
-                    }
+                    int[] wins = winsOf(seed, men, tenths, steps);
                     for (int man = 0; man < 4; man++) {
                         if ((men >> man & 1) == 1) {
                             Check.due("wins(" + seed + ", " + men + ", " + plan + ", " + man + ")", x.wins(seed, men, plan, man), wins[man]);
@@ -267,6 +255,29 @@ public final class DrawBoundsTest {
                 }
             }
         }
+    }
+
+    /** Ten draws by RUNS that are told, and by slips of four tenths each. */
+    private static int[] winsOf(int seed, int men, int[] tenths, int[] steps) {
+        last = seed;
+        int[] wins = new int[4];
+        for (int draw = 0; draw < 10; draw++) {
+            int winner = -1;
+            int least = 0;
+            for (int man = 0; man < 4; man++) {
+                if ((men >> man & 1) == 1) {
+                    int slips = slipped(steps[man], 2);
+                    if (tenths[man] >= 0 && (winner < 0 || tenths[man] + 4 * slips < least)) {
+                        winner = man;
+                        least = tenths[man] + 4 * slips;
+                    }
+                }
+            }
+            if (winner >= 0) {
+                wins[winner]++;
+            }
+        }
+        return wins;
     }
 
     private static void wins() {

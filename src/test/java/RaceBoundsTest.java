@@ -26,6 +26,7 @@ public final class RaceBoundsTest {
         keep();
         back();
         backToAnother();
+        backToHisWind();
         backToNone();
         Check.finish("RaceBoundsTest");
     }
@@ -652,6 +653,23 @@ public final class RaceBoundsTest {
                 Check.due("go", x.go(1), y.go(1));
             }
         }
+    }
+
+    private static void backToHisWind() {
+        Check.sentence("back: wind is again at most what he, not another one, began with");
+        SackRace x = Check.told("lane a 9 0;man m 12 9 9;man n 40 9 9;hold h 0 0 0;plan p h 9;law cost (wind = 12) * 8 - 5;");
+        x.race(0, 0);
+        x.go(1);
+        Check.due("3 less", x.now(2), 9);
+        x.keep();
+        x.race(1, 0);
+        x.go(2);
+        Check.due("full", x.now(2), 40);
+        x.back();
+        x.go(1);
+        Check.due("12 at most", x.now(2), 12);
+        x.go(1);
+        Check.due("3 less", x.now(2), 9);
     }
 
     private static void backToNone() {

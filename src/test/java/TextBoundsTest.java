@@ -521,6 +521,12 @@ public final class TextBoundsTest {
         Check.due("a FAULT", Check.tell(x, "law time 1 + ((2 * (3"), -1);
         Check.due("no FAULT", Check.tell(x, "lane a 1 1;man m 1 1 1;law time 4 - 1;"), 3);
         Check.due("4 - 1", x.law(0, 0, 0, 1), 3);
+        Check.due("not 0", Check.tell(x, "lane a 1 1;man m 1 1 1;law time not 0 + 0;"), 3);
+        Check.due("4 alone, behind a not", Check.tell(x, "lane a 1 1;man m 1 1 1;law time 4;"), 3);
+        Check.due("4", x.law(0, 0, 0, 1), 4);
+        Check.due("a FAULT", Check.tell(x, "law time not 1 + 2 * !"), -1);
+        Check.due("4 less 1, behind a FAULT", Check.tell(x, "lane a 1 1;man m 1 1 1;law time 4 - 1;"), 3);
+        Check.due("4 less 1", x.law(0, 0, 0, 1), 3);
         Check.due("a FAULT", Check.tell(x, "law time (1 + 1"), -1);
         Check.due("a ) too many", Check.tell(x, "law time 1);"), -1);
         Check.due("its place", x.fault(1), 10);
