@@ -243,8 +243,10 @@ public final class SackRace {
             past[MOST_UNDONE - 1] = oldest;
             undoable = MOST_UNDONE - 1;
         }
-        past[undoable].take(racer);
-        undoable++;
+        if (undoable >= 0) {
+            past[undoable].take(racer);
+            undoable++;
+        }
     }
 
     public int now(int what) {
@@ -283,7 +285,7 @@ public final class SackRace {
     }
 
     public int undo() {
-        if (undoable <= 0) {
+        if (undoable <= 0 || undoable > MOST_UNDONE) {
             return NONE;
         }
         undoable--;
@@ -364,7 +366,7 @@ public final class SackRace {
     private int steadyTenths(int man, int hold, int top, int pace) {
         walk.stand(top, top, told.at(MAN, man, LEGS), told.at(HOLD, hold, COST));
         for (int i = 0; i < told.size(STRETCH); i++) {
-            walk.tread(ground, i, pace, ground.steps[i]);
+            walk.tread(ground, i, pace, ground.stepsOf(i));
         }
         return walk.isOut() ? LACKS : walk.tenths;
     }
@@ -1242,13 +1244,13 @@ public final class SackRace {
                 return ERROR;
             }
             int top = 0;
-            for (int i = from[kind]; i < to[kind]; i++) {
+            for (int i = from[kind]; i < to[kind] && i < MOST_KNOTS && top < MOST_KNOTS; i++) {
                 int sign = signs[i];
                 if (sign == Tokens.NUMBER) {
                     stack[top] = values[i];
                     top++;
                 } else if (sign == Tokens.NAME) {
-                    stack[top] = given[values[i]];
+                    stack[top] = given[values[i] & (NAMES - 1)];
                     top++;
                 } else if (sign == Tokens.NOT && top >= 1) {
                     stack[top - 1] = stack[top - 1] == 0 ? 1 : 0;
@@ -1297,9 +1299,9 @@ public final class SackRace {
     /** Rows of one kind: a name and numbers each. */
     private static final class Rows {
         final int most;
-        final int width;
+        private final int width;
         private final int[] names;
-        final int[] cells;
+        private final int[] cells;
         int size = 0;
 
         Rows(int most, int width) {
@@ -1310,7 +1312,7 @@ public final class SackRace {
         }
 
         int find(int name) {
-            for (int i = 0; i < size; i++) {
+            for (int i = 0; i < size && i < most; i++) {
                 if (names[i] == name) {
                     return i;
                 }
@@ -1339,6 +1341,11 @@ public final class SackRace {
             size++;
             return true;
         }
+
+        int at(int row, int column) {
+            boolean is = row >= 0 && row < size && row < most && column >= 0 && column < width;
+            return is ? cells[row * width + column] : 0;
+        }
     }
 
     /** All that a TEXT tells. */
@@ -1364,17 +1371,15 @@ public final class SackRace {
         }
 
         int size(int kind) {
-            return kinds[kind].size;
+            return kind >= 0 && kind < kinds.length ? kinds[kind].size : 0;
         }
 
         boolean has(int kind, int row) {
-            return row >= 0 && row < kinds[kind].size;
+            return row >= 0 && row < size(kind);
         }
 
         int at(int kind, int row, int column) {
-            Rows rows = kinds[kind];
-            boolean is = row >= 0 && row < rows.size && column >= 0 && column < rows.width;
-            return is ? rows.cells[row * rows.width + column] : 0;
+            return has(kind, row) ? kinds[kind].at(row, column) : 0;
         }
 
         /** STEPS of all STRETCHES ahead of one. */
@@ -1439,6 +1444,10 @@ public final class SackRace {
                 curves[i] = told.at(STRETCH, i, BEND);
             }
             age++;
+        }
+
+        int stepsOf(int stretch) {
+            return stretch >= 0 && stretch < MOST_STRETCHES ? steps[stretch] : 0;
         }
 
         void give(int stretch, int pace, int wind, int legs) {
@@ -1673,12 +1682,15 @@ public final class SackRace {
         }
 
         private void spread(int state, int stretch) {
+            if (state < 0 || state >= STATES) {
+                return;
+            }
             boolean told = stretch == 0 && firstPace > 0;
             int from = told ? firstPace : 1;
             int to = told ? firstPace : MOST_PACE;
             for (int pace = from; pace <= to; pace++) {
                 walk.stand(top, state / LEGS_WIDE, state % LEGS_WIDE, holdCost);
-                walk.tread(ground, stretch, pace, ground.steps[stretch]);
+                walk.tread(ground, stretch, pace, ground.stepsOf(stretch));
                 if (!walk.isOut()) {
                     reach(walk.wind * LEGS_WIDE + walk.legs, ways[state], pace);
                 }
@@ -1687,10 +1699,13 @@ public final class SackRace {
 
         /** Of ways to one wind and legs the least number is the quickest, and of those the first. */
         private void reach(int state, long way, int pace) {
+            if (state < 0 || state >= STATES) {
+                return;
+            }
             long tenths = (way >> PATH_BITS) + walk.tenths;
             long path = ((way << 4) & PATH_MASK) | pace;
             long longer = tenths << PATH_BITS | path;
-            if (nextWays[state] == 0) {
+            if (nextWays[state] == 0 && nextSize < STATES) {
                 nextReached[nextSize] = state;
                 nextSize++;
                 nextWays[state] = longer;
@@ -1904,7 +1919,7 @@ public final class SackRace {
                 }
                 walk.stand(wind, wind, legs, told.at(HOLD, told.at(PLAN, plan, HELD_BY), COST));
                 for (int i = 0; i <= lastDue[plan]; i++) {
-                    walk.tread(ground, i, told.at(PLAN, plan, FIRST_PACE + i), ground.steps[i]);
+                    walk.tread(ground, i, told.at(PLAN, plan, FIRST_PACE + i), ground.stepsOf(i));
                     int must = due[plan * MOST_STRETCHES + i];
                     if (walk.isOut() || (must != NONE && must != walk.tenths)) {
                         return false;
