@@ -1375,7 +1375,7 @@ public final class SackRace {
         }
 
         boolean has(int kind, int row) {
-            return row >= 0 && row < size(kind);
+            return kind >= 0 && kind < kinds.length && row >= 0 && row < kinds[kind].size;
         }
 
         int at(int kind, int row, int column) {
